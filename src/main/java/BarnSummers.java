@@ -295,11 +295,12 @@ public final class BarnSummers {
             }
         }
         if (!isNoBarn()) {
-            h = with(h, lasts(2));
-            h = with(h, plan(2, 0));
-            h = with(h, plan(2, 10));
-            h = with(h, plan(2, 11));
-            h = with(h, burnt(9));
+            h = with(h, foresight.daysItLasts(now, 2));
+            foresight.makePlan(now, 2);
+            h = with(h, foresight.bestMuch);
+            h = with(h, foresight.plannedBay(2, 0));
+            h = with(h, foresight.plannedBay(2, 1));
+            h = with(h, foresight.goneBehind(now, 9));
         }
         for (int place = 0; place < page.size; place++) {
             h = with(h, page.letters[place]);
@@ -736,7 +737,7 @@ public final class BarnSummers {
 
         final Barn trial = new Barn();
         int bestMuch;
-        /** Two bits a DAY, the first DAY's the highest: 0 nothing, else 1 more than the BAY. So numbers are in order. */
+        /** Two bits a DAY, the first DAY's highest: 0 nothing, else the BAY and 1. As numbers they are in order. */
         int bestPlan;
 
         int daysItLasts(Barn barn, int much) {
