@@ -258,6 +258,12 @@ public final class PromisesTest {
         x.see(0, 4, 3);
         DUE.is("6: one is left", x.cart(0, 7), 1 << 6);
         DUE.is("6: feel with one left", x.cart(0, 8), 1);
+        // the ancient one is felt only once the plain one on it is dry, behind the ninth day
+        x = Barns.of("a10,s18;s10");
+        x.see(0, 1, 1);
+        DUE.is("6: feel behind the ninth day", x.cart(0, 8), 9);
+        DUE.is("6: wets of it", x.cart(0, 7), 120);
+        DUE.is("6: feel of another, asked at once", x.cart(1, 8), 1);
     }
 
     private static void as() {
@@ -526,6 +532,7 @@ public final class PromisesTest {
         shareIs("s90,s90,s90;s90,s90,s90;s90,s90,s90", 36, 27);
         shareIs("s90,s80,s70;s60,s50,s40;s30,s20,s10", 22, 15);
         shareIs("s90;s10,s10,s10", 3, 1);
+        shareIs("s50;s30;s70", 7, 3);
         BarnSummers x = Barns.of("s50;s40");
         x.cut(0, 2);
         x.cut(1, 3);
@@ -537,10 +544,15 @@ public final class PromisesTest {
         x.cut(1, 1);
         x.image();
         DUE.is("15: with all gone", x.share(3), 0);
+        DUE.is("15: with all gone", x.share(2), 0);
         x.restore();
-        DUE.is("15: an image keeps it not", x.count(12), 2);
+        DUE.is("15: an image keeps it not", x.count(12), 3);
+        Barns.read(x, "s10,s10,s10;s10,s10,s10;s10,s10,s10");
+        DUE.is("15: nine among three", x.share(3), 3);
+        Barns.read(x, "s90;s10");
+        DUE.is("15: two among three, behind nine", x.share(3), 0);
         Barns.read(x, "s50;s40");
-        for (int done = 3; done <= 12; done++) {
+        for (int done = 6; done <= 12; done++) {
             DUE.is("15: share(2), the " + done, x.share(2), 4);
         }
         DUE.is("15: the 13th", x.share(2), STATE);
@@ -659,8 +671,9 @@ public final class PromisesTest {
         x.cut(0, 1);
         x.turn(1);
         x.day();
-        x.see(0, 1, 5);
+        x.see(0, 1, 14);
         x.see(2, 2, 0);
+        DUE.is("21: wets ahead of it", x.cart(0, 7), 1 << 5);
         x.image();
         long before = x.digest();
         for (int again = 0; again < 2; again++) {
@@ -676,6 +689,12 @@ public final class PromisesTest {
             DUE.is("21: what lies where", x.bay(1, 1), 3);
             DUE.is("21: seen", x.count(9), 2);
         }
+        x.forget();
+        x.see(1, 9, 30);
+        x.see(1, 8, 30);
+        x.restore();
+        DUE.is("21: seen as it was, not as it is", x.digest(), before);
+        DUE.is("21: nothing of another", x.cart(3, 7), 1023);
         Barns.write(x, "s1");
         x.restore();
         DUE.is("21: the page stays", x.count(10), 2);
@@ -719,6 +738,15 @@ public final class PromisesTest {
         digestIs(x);
         long before = x.digest();
         DUE.is("23: it changes nothing", x.digest(), before);
+        digestIs(Barns.of("s10;o10"));
+        digestIs(Barns.of("o30;s10"));
+        // one BAY burns on the tenth day; then, behind a day, on the ninth
+        x = Barns.of("s14,s90;s13,s90");
+        digestIs(x);
+        x.day();
+        x.rain(0, 3);
+        x.rain(2, 3);
+        digestIs(x);
     }
 
     private static void digestIs(BarnSummers x) {
