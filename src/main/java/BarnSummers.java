@@ -691,10 +691,10 @@ public final class BarnSummers {
 
         int bayOfLeastLight() {
             int best = NONE;
-            int least = MOST_LIGHT + 1;
+            int least = 0;
             for (int bay = 0; bay < bays; bay++) {
                 int cart = top(bay);
-                if (cart != NONE && light[cart] < least) {
+                if (cart != NONE && (best == NONE || light[cart] < least)) {
                     least = light[cart];
                     best = bay;
                 }

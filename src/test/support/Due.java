@@ -1,6 +1,7 @@
 /** What a test holds against the answers: it prints each that is not due, and ends with 1 if there was one. */
 final class Due {
     private final String test;
+    private String about = "";
     private int asked;
     private int wrong;
 
@@ -8,12 +9,21 @@ final class Due {
         this.test = test;
     }
 
+    /** What the answers that come now are about; it is printed ahead of each that is not due. */
+    void about(String what) {
+        about = what;
+    }
+
+    int asked() {
+        return asked;
+    }
+
     void is(String call, long got, long want) {
         asked++;
         if (got != want) {
             wrong++;
             if (wrong <= 40) {
-                System.out.println(test + ": " + call + " answered " + got + ", due is " + want);
+                System.out.println(test + ": " + about + call + " answered " + got + ", due is " + want);
             }
         }
     }
