@@ -24,6 +24,10 @@ public final class LanguageTest {
     private static final String[] BANNED = {"throw", "throws", "try", "catch", "finally", "synchronized", "assert",
         "import", "package", "->", "::", "hashCode", "toString", "Object", "Random", "Thread", "System\\.(?!arraycopy)"};
 
+    private static final Set<Class<?>> CONSTANTS = Set.of(int.class, long.class, boolean.class, char.class, String.class,
+        int[].class, long[].class, char[].class, byte[].class);
+    private static final Set<String> LIBRARY = Set.of("Math.min", "Math.max", "System.arraycopy");
+
     public static void main(String[] args) throws IOException {
         face();
         text(Files.readString(Path.of("src/main/java/BarnSummers.java")));
@@ -61,9 +65,29 @@ public final class LanguageTest {
                 || Set.of("NONE", "UNKNOWN", "OUTSIDE", "STATE", "FULL").contains(f.getName()));
         }
         DUE.holds("at most twelve classes", c.getDeclaredClasses().length < 12);
+        staticFields(c);
         for (Class<?> inside : c.getDeclaredClasses()) {
-            DUE.holds(inside + " is static", Modifier.isStatic(inside.getModifiers()));
-            DUE.holds(inside + " has few fields", inside.getDeclaredFields().length <= 20);
+            inside(inside, open);
+        }
+    }
+
+    private static void inside(Class<?> inside, Set<String> open) {
+        DUE.holds(inside + " is static", Modifier.isStatic(inside.getModifiers()));
+        DUE.holds(inside + " is not public", !Modifier.isPublic(inside.getModifiers()));
+        DUE.holds(inside + " has few fields", inside.getDeclaredFields().length <= 20);
+        staticFields(inside);
+        for (Method m : inside.getDeclaredMethods()) {
+            DUE.holds(inside + "'s " + m.getName() + " is no call of the face",
+                open.stream().noneMatch(call -> call.startsWith(m.getName() + "(")));
+        }
+    }
+
+    private static void staticFields(Class<?> c) {
+        for (Field f : c.getDeclaredFields()) {
+            if (Modifier.isStatic(f.getModifiers())) {
+                DUE.holds(f + " is final", Modifier.isFinal(f.getModifiers()));
+                DUE.holds(f + " is a number, a text or a row", CONSTANTS.contains(f.getType()));
+            }
         }
     }
 
@@ -76,7 +100,20 @@ public final class LanguageTest {
         for (int i = 0; i < source.length(); i++) {
             DUE.holds("a plain sign at " + i, source.charAt(i) < 127);
         }
+        library(code);
         methods(code);
+    }
+
+    /** Of the library's functions only those are used that LANGUAGE.md lists. */
+    private static void library(String code) {
+        Set<String> own = new TreeSet<>();
+        for (Class<?> inside : BarnSummers.class.getDeclaredClasses()) {
+            own.add(inside.getSimpleName());
+        }
+        Matcher m = Pattern.compile("\\b([A-Z][a-z]\\w*)\\.(\\w+)").matcher(code);
+        while (m.find()) {
+            DUE.holds(m.group() + " is ours, or listed", own.contains(m.group(1)) || LIBRARY.contains(m.group()));
+        }
     }
 
     /** Methods are short, take few parameters, and stand under one another at most eight deep. */
